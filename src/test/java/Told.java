@@ -47,4 +47,11 @@ final class Told {
         law(x, law);
         return x;
     }
+
+    /** A new object told a street, a law, and more of the street. */
+    static PutOffParade of(String street, String law, String more) {
+        PutOffParade x = of(street, law);
+        street(x, more);
+        return x;
+    }
 }
