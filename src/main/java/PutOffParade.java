@@ -34,17 +34,12 @@ public final class PutOffParade {
     private static final int NEVER = 1000;
 
     private final Tape tape = new Tape();
-    private final Tokens tokens = new Tokens(tape);
+    private final StreetReader streetReader = new StreetReader();
+    private final LawReader lawReader = new LawReader();
     private int wrongByte = NONE;
 
     private final Street now = new Street();
-    private final Street draft = new Street();
-    private final StreetReader streetReader = new StreetReader(tokens, draft);
-
     private final Law rule = new Law();
-    private final Law draftRule = new Law();
-    private final LawReader lawReader = new LawReader(tokens, draftRule);
-
     private final Choosing choosing = new Choosing();
     /** Looks ahead are taken on this one, made once and used again by each. */
     private final Street later = new Street();
@@ -86,8 +81,7 @@ public final class PutOffParade {
     }
 
     public int street() throws IllegalArgumentException, UnsupportedOperationException {
-        draft.copyFrom(now);
-        wrongByte = streetReader.read();
+        wrongByte = streetReader.read(tape, now);
         tape.length = 0;
         if (wrongByte != NONE) {
             throw new IllegalArgumentException();
@@ -95,19 +89,19 @@ public final class PutOffParade {
         if (now.texts >= MOST_TEXTS) {
             throw new UnsupportedOperationException();
         }
-        now.copyFrom(draft);
+        now.copyFrom(streetReader.draft);
         now.texts++;
         acts = 0;
         return now.texts;
     }
 
     public int law() throws IllegalArgumentException {
-        wrongByte = lawReader.read();
+        wrongByte = lawReader.read(tape);
         tape.length = 0;
         if (wrongByte != NONE) {
             throw new IllegalArgumentException();
         }
-        rule.copyFrom(draftRule);
+        rule.copyFrom(lawReader.draft);
         acts = 0;
         return rule.lines;
     }
@@ -782,7 +776,7 @@ public final class PutOffParade {
     private static int sumOver(int[] row, int set) {
         int sum = 0;
         for (int i = 0; i < row.length; i++) {
-            if (has(set, i)) {
+            if ((set >> i & 1) != 0) {
                 sum += row[i];
             }
         }
@@ -841,7 +835,6 @@ public final class PutOffParade {
         static final int MOST_DIGITS = 3;
         private static final Word[] WORDS = Word.values();
 
-        final Tape tape;
         final int[] kinds = new int[TAPE_BYTES + 1];
         final int[] begins = new int[TAPE_BYTES + 1];
         final int[] ends = new int[TAPE_BYTES + 1];
@@ -854,12 +847,8 @@ public final class PutOffParade {
         int value;
         Word word;
 
-        Tokens(Tape tape) {
-            this.tape = tape;
-        }
-
         /** All at once, and not while they are taken: the readers are deep in calls by then. */
-        void scan() {
+        void scan(Tape tape) {
             size = 0;
             int last = BLANK;
             for (int i = 0; i < tape.length; i++) {
@@ -874,7 +863,7 @@ public final class PutOffParade {
             }
             open(END, tape.length);
             for (int token = 0; token < size; token++) {
-                setAt(values, token, valueOf(token));
+                setAt(values, token, valueOf(tape, token));
             }
             current = NONE;
             next();
@@ -897,25 +886,25 @@ public final class PutOffParade {
             size++;
         }
 
-        private int valueOf(int token) {
+        private int valueOf(Tape tape, int token) {
             switch (at(kinds, token)) {
-                case WORD: return wordOf(token);
-                case NUMBER: return numberOf(token);
+                case WORD: return wordOf(tape, token);
+                case NUMBER: return numberOf(tape, token);
                 default: return tape.byteAt(at(begins, token));
             }
         }
 
-        private int wordOf(int token) {
+        private int wordOf(Tape tape, int token) {
             for (int i = 0; i < WORDS.length; i++) {
                 Word known = WORDS[i];
-                if (known != null && isText(known.text, token)) {
+                if (known != null && isText(tape, token, known.text)) {
                     return i;
                 }
             }
             return NONE;
         }
 
-        private boolean isText(String text, int token) {
+        private boolean isText(Tape tape, int token, String text) {
             int first = at(begins, token);
             if (at(ends, token) - first != text.length()) {
                 return false;
@@ -928,7 +917,7 @@ public final class PutOffParade {
             return true;
         }
 
-        private int numberOf(int token) {
+        private int numberOf(Tape tape, int token) {
             int first = at(begins, token);
             int end = at(ends, token);
             if (end - first > MOST_DIGITS) {
@@ -989,17 +978,13 @@ public final class PutOffParade {
     private static final class StreetReader {
         static final int MOST_LINES = 14;
 
-        final Tokens tokens;
-        final Street draft;
+        final Tokens tokens = new Tokens();
+        final Street draft = new Street();
 
-        StreetReader(Tokens tokens, Street draft) {
-            this.tokens = tokens;
-            this.draft = draft;
-        }
-
-        /** The first wrong byte, or NONE. */
-        int read() {
-            tokens.scan();
+        /** The first wrong byte, or NONE: then the draft is the street with the text. */
+        int read(Tape tape, Street street) {
+            draft.copyFrom(street);
+            tokens.scan(tape);
             if (tokens.isEnd()) {
                 return NONE;
             }
@@ -1277,21 +1262,16 @@ public final class PutOffParade {
         /** Above all operations: none of them is emitted past a bracket that is open. */
         static final int BRACKET = Law.OR + 1;
 
-        final Tokens tokens;
-        final Law draft;
+        final Tokens tokens = new Tokens();
+        final Law draft = new Law();
         final int[] waiting = new int[HELD];
         int held;
         int depth;
 
-        LawReader(Tokens tokens, Law draft) {
-            this.tokens = tokens;
-            this.draft = draft;
-        }
-
-        /** The first wrong byte, or NONE. */
-        int read() {
+        /** The first wrong byte, or NONE: then the draft is the law that the text tells. */
+        int read(Tape tape) {
             draft.clear();
-            tokens.scan();
+            tokens.scan(tape);
             if (tokens.isEnd()) {
                 return NONE;
             }
@@ -1707,11 +1687,10 @@ public final class PutOffParade {
             int had = 0;
             int hours = at(free, person);
             for (int d = 0; d < duties && hours > 0; d++) {
-                int needed = bit(at(tool, d));
-                if (at(owner, d) == person && (taken & needed) == 0 && isReady(d)) {
+                if (at(owner, d) == person && isReady(d) && !has(taken, at(tool, d))) {
                     int worked = Math.min(hours, at(left, d));
                     hours -= worked;
-                    had |= needed;
+                    had |= bit(at(tool, d));
                     setAt(left, d, at(left, d) - worked);
                     if (at(left, d) == 0) {
                         finish(d);
@@ -1853,8 +1832,8 @@ public final class PutOffParade {
             }
             int best = 0;
             for (int set = 1; set <= can; set++) {
-                boolean isMore = Integer.bitCount(set) > Integer.bitCount(best);
-                if ((set & ~can) == 0 && isMore && canBeCalledTogether(street, set)) {
+                boolean isOfCan = (set & ~can) == 0;
+                if (isOfCan && Integer.bitCount(set) > Integer.bitCount(best) && canBeCalledTogether(street, set)) {
                     best = set;
                 }
             }
