@@ -1143,7 +1143,6 @@ public final class PutOffParade {
 
         void copyFrom(Law other) {
             lines = other.lines;
-            length = other.length;
             copyRow(other.kind, kind);
             copyRow(other.number, number);
             copyRow(other.from, from);
@@ -1256,7 +1255,6 @@ public final class PutOffParade {
      */
     private static final class LawReader {
         static final int MOST_NUMBER = 60;
-        static final int LAST_NUMBER = 999;
         static final int DEEPEST = 6;
         static final int HELD = 32;
         /** Above all operations: none of them is emitted past a bracket that is open. */
@@ -1325,11 +1323,11 @@ public final class PutOffParade {
                 }
                 closeDeeper();
                 int join = joinAtHand();
-                emitHeld(join);
                 if (join == NONE) {
                     emitHeld(Law.OR);
                     return held == 0;
                 }
+                emitHeld(join);
                 hold(join);
                 tokens.next();
             }
@@ -1360,9 +1358,8 @@ public final class PutOffParade {
             return false;
         }
 
-        /** Each not that has its atom, and each ) that is at hand for an open (. */
+        /** Each ) that is at hand for an open (. */
         private void closeDeeper() {
-            emitHeld(Law.NOT);
             for (int i = 0; i < DEEPEST && tokens.isSign(')'); i++) {
                 emitHeld(Law.OR);
                 if (held == 0) {
@@ -1371,7 +1368,6 @@ public final class PutOffParade {
                 held--;
                 depth--;
                 tokens.next();
-                emitHeld(Law.NOT);
             }
         }
 

@@ -83,6 +83,7 @@ public final class ForecastTest {
         Check.due("whatever it LEANS on, of several the least", 1, x.crux());
         x.call(0);
         Check.due("the soonest, not the first", 2, x.crux());
+        Check.due("the first one", 0, Told.of("person at 0 free 1;duty of 0 takes 3;duty of 0 takes 3").crux());
         PutOffParade y = Told.of("person at 0 free 1;person at 0 free 1;duty of 0 takes 3;duty of 1 takes 3");
         Check.due("by none it is sooner", -1, y.crux());
         y.forget(0);

@@ -138,5 +138,10 @@ public final class KerbTest {
         Check.due("LOST all the same", 95, x.lost());
         PutOffParade y = Told.of("person at 0 free 0;duty of 0 takes 1 age 99;duty of 0 takes 1 age 98;duty of 0 takes 1 age 99;forgotten 1;forgotten 2");
         Check.due("98 is the last gap", 2, y.missed());
+        PutOffParade z = Told.of("person at 0 free 0;duty of 0 takes 1 age 1;duty of 0 takes 1 age 2;forgotten 0");
+        Check.due("the first one", 1, z.missed());
+        Check.due("0 is the first gap", 0, z.gap());
+        PutOffParade v = Told.of("person at 0 free 0;duty of 0 takes 1;duty of 0 takes 1 age 2");
+        Check.due("0 is the first one's AGE", 1, v.gap());
     }
 }

@@ -59,6 +59,7 @@ public final class LeaningTest {
         Check.due("not of what leans on it", 15, x.longest());
         x.lean(0, 3);
         Check.due("none has one", 0, x.longest());
+        Check.due("of the first one alone", 9, Told.of("person at 0 free 0;duty of 0 takes 9;duty of 0 takes 3").longest());
     }
 
     private static void rings() {
@@ -110,6 +111,8 @@ public final class LeaningTest {
         bits("after", new int[] {30, 28, 8, 0, 0, 0}, afters(x));
         x.lean(1, 3);
         bits("after in a ring", new int[] {0, 30, 30, 30, 0, 0}, afters(x));
+        x.lean(0, 5);
+        Check.due("the first one too", 1, x.after(5));
         Check.index("after(6)", () -> x.after(6));
         Check.index("after(-1)", () -> x.after(-1));
     }
@@ -154,6 +157,10 @@ public final class LeaningTest {
         for (int[] row : due) {
             Check.due("young(" + row[0] + ")", row[1], x.young(row[0]));
         }
+        PutOffParade y = Told.of("person at 0 free 0;duty of 0 takes 9 age 9;duty of 0 takes 3");
+        y.lean(0, 1);
+        Check.due("what the first one LEANS on", 12, y.young(8));
+        Check.due("nothing older", 0, y.young(9));
         x.call(0);
         Check.due("without the done one", 50, x.young(39));
         x.forget(3);

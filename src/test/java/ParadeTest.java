@@ -73,6 +73,10 @@ public final class ParadeTest {
         for (int[] row : due) {
             Check.due("where(" + row[0] + ", " + row[1] + ")", row[2], x.where(row[0], row[1]));
         }
+        PutOffParade y = Told.of("person at 0 free 0;pace 1;duty of 0 takes 1;duty of 0 takes 1");
+        Check.due("by PACE 1", 6, y.where(1, 7));
+        Check.due("by PACE 1, beyond 15", 16, y.where(0, 16));
+        Check.due("by PACE 2 at first", 2, Told.of("person at 0 free 0;duty of 0 takes 1;duty of 0 takes 1").where(1, 7));
         Check.argument("where(0, 301)", () -> x.where(0, 301));
         Check.argument("where(0, -1)", () -> x.where(0, -1));
         Check.argument("where(5, 301) of a forgotten one", () -> x.where(5, 301));
@@ -115,6 +119,13 @@ public final class ParadeTest {
             Told.of(people + "duty of 0 takes 1;duty of 1 takes 1;duty of 2 takes 1;duty of 1 takes 1;duty of 3 takes 1").most());
         Check.due("one who passes between parts them", 5,
             Told.of(people + "duty of 0 takes 1;duty of 1 takes 99;duty of 2 takes 1").most());
+        Check.due("those at PLACES 1 and 3", 10,
+            Told.of(people + "duty of 0 takes 99;duty of 1 takes 1;duty of 2 takes 99;duty of 3 takes 1").most());
+        PutOffParade y = Told.of(people + "duty of 0 takes 1;duty of 1 takes 1;duty of 2 takes 1 age 1");
+        Check.due("first and last", 5, y.most());
+        y.put(0);
+        y.put(0);
+        Check.due("the first one is the last one then", 3, y.most());
         Check.due("none of CAN", 0, Told.of(people + "duty of 0 takes 99;duty of 1 takes 99").most());
         Check.due("a forgotten one is none of PLACES", 10,
             Told.of(people + "duty of 0 takes 1;duty of 1 takes 1;duty of 0 takes 1;duty of 2 takes 1;forgotten 0").most());
@@ -146,6 +157,11 @@ public final class ParadeTest {
         Told.law(y, "shame 40 if duty > 1 and duty < 3;ease 60 if left > 4");
         Check.due("by the law", 4, y.does(6, false));
         Check.due("by the law", 9, y.does(6, true));
+        PutOffParade z = Told.of("person at 0 free 0;duty of 0 takes 1 age 1;duty of 0 takes 9");
+        Check.due("SHAME 1 is better done", 1, z.does(1, false));
+        z.lean(0, 1);
+        Check.due("the first one LEANS on one that is not of the set", 0, z.does(1, false));
+        Check.due("with it", 3, z.does(10, false));
         Check.due("of no SHAME at all none is done", 0, Told.of("person at 0 free 0;duty of 0 takes 1").does(99, false));
         y.call(2);
         Check.due("a done one is none of the set", 0, y.does(99, false));

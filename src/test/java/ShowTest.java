@@ -45,6 +45,10 @@ public final class ShowTest {
         Check.due("9 by 8, rounded up", 2, x.person(2, 4));
         PutOffParade y = Told.of("person at 0 free 1;person at 0 free 1;duty of 0 takes 1;duty of 1 takes 1");
         Check.due("SHARE without any SHAME", 0, y.person(0, 5));
+        y.put(1);
+        Check.due("SHARE of all the SHAME, which is 1", 100, y.person(1, 5));
+        Check.due("SHARE of none of it", 0, y.person(0, 5));
+        y.undo();
         Told.law(y, "shame 7 if owner < 1;shame 1;grow 3");
         Check.due("SHARE by the law", 88, y.person(0, 5));
         Check.due("SHARE by the law", 11, y.person(1, 5));

@@ -21,6 +21,10 @@ public final class TextTest {
         "ill |ill", "ill 1;|walk", "ill 1;  |5", "ill 1 |: pace 3", "ill |(3)", "ill 3|.", "price 5;pace 3;day 30|/",
         P + P + P + P + P + P + "|person at 1 free 1", P + P + P + P + P + P + "|person at 99",
         PD + "duty of 0 takes 1;".repeat(11) + "|duty of 0 takes 1", "ill 1;".repeat(14) + "|ill 1", "ill 1;".repeat(14) + "|",
+        "person|;ill 1", "person at|;ill 1", "person at 1|;ill 1", "person at 1 free|;ill 1", P + "duty|;ill 1", P + "duty of|;ill 1",
+        P + "duty of 0|;ill 1", P + "duty of 0 takes|;ill 1", P + "duty of 0 takes 1 age|;ill 1", P + "duty of 0 takes 1 tool|;ill 1",
+        PD + "duty of 0 takes 1 on|;ill 1", PD + "forgotten|;ill 1", "ill|;ill 1", "pace|;ill 1", "price|;ill 1", "day|;ill 1", "month|;ill 1",
+        "|personz at 1 free 1", "person at 1 free 1 |zz", P + "duty of 0 takes 1 on|0", PD + "duty of 0 takes 1 tool 1 on |1",
         "ill 1;".repeat(14) + " |walk", "ill 1;".repeat(13) + "ill 1|x", "ill 1;".repeat(13) + "|",
     };
 
@@ -37,6 +41,10 @@ public final class TextTest {
         "grow 5 if (((((not |(old))))))", "grow 5 if ((((((old)))))|", "grow 5 if ((((((old)))))) and old|)",
         "grow 1;".repeat(12) + "|grow 1", "grow 1;".repeat(12) + "|", "grow 1;".repeat(12) + " |tax", "grow 1;".repeat(11) + "|",
         "grow1|x", "|GROW 1", "|person at 1 free 1", "grow 5 |and", "grow 5 if ready|,", "grow 5 if 3 < 4 |3",
+        "grow|;grow 1", "grow 5 if|;grow 1", "grow 5 if not|;grow 1", "grow 5 if age|;grow 1", "grow 5 if age <|;grow 1",
+        "grow 5 if age < 5 +|;grow 1", "grow 5 if age +|;grow 1", "grow 5 if (old|;grow 1", "grow 5 if old and|;grow 1",
+        "grow 5 if old or|;grow 1", "grow 5 if not old and not not not not not not |not old", "grow 5 if (old) and ((((((|(old",
+        "grow 5 if |oldz", "grow 5 if 5 < |z",
         "grow 5 if |person < 3", "grow 5 if not 5|", "grow 5 if (old |old)", "grow 5 if (old or |)",
     };
 
@@ -47,6 +55,8 @@ public final class TextTest {
         nothingStaysOfWrongStreets();
         rightLaws();
         conditions();
+        longConditions();
+        lawsBehindWrongOnes();
         wrongLaws();
         faults();
         Check.close("TextTest", 4, 5, 6);
@@ -195,6 +205,7 @@ public final class TextTest {
             "ready and ready or old and old", "(ready or old) and (old or ready)", "not age < 3", "not 3 > age", "old and old and old",
             "ready or ready or old", "not (not old or ready) and (not (ready) or ready)", "old and(not(ready or(ready)))",
         };
+        String[] readyOnes = {"ready and 1 < 2", "not (ready and 2 < 1)", "ready and ready", "1 < 2 and ready", "not not ready", "not ready or ready"};
         String[] failing = {
             "ready", "not old", "old and ready", "ready or not old", "duty > 3", "duty < 3", "left > 7", "left < 7", "age < 12",
             "age > 12", "tool > 9", "tool < 9", "owner > 1", "owner < 1", "kerb > 9", "kerb < 9", "day > 20", "day < 20", "1 < 1", "1 > 1",
@@ -205,6 +216,10 @@ public final class TextTest {
         for (String condition : holding) {
             Told.law(x, "grow 5 if " + condition + ";shame 1");
             Check.due("grow 5 if " + condition, 5, x.duty(3, 7));
+        }
+        for (String condition : readyOnes) {
+            Told.law(x, "grow 5 if " + condition);
+            Check.due("of a ready one: grow 5 if " + condition, 5, x.duty(0, 7));
         }
         for (String condition : failing) {
             Told.law(x, "shame 1;grow 5 if " + condition);
@@ -221,6 +236,54 @@ public final class TextTest {
         Told.law(x, "grow 10 if left < 8 and day > 19;grow 20 if left < 8 and day > 20;grow 40 if tool > 3 and tool < 5");
         Check.due("both parts", 10, x.duty(3, 7));
         Check.due("its tool", 50, x.duty(1, 7));
+    }
+
+    /** As deep as it may be, again and again, and as long as the tape is. */
+    private static void longConditions() {
+        Check.promise(5);
+        PutOffParade x = Told.of("person at 3 free 0;duty of 0 takes 1 age 20");
+        Told.law(x, "grow 5 if " + "((((((old))))))" + " and ((((((old))))))".repeat(9));
+        Check.due("ten times six deep", 5, x.duty(0, 7));
+        Told.law(x, "grow 5 if " + "not not not not not not old" + " and not not not not not not old".repeat(9));
+        Check.due("ten times six nots", 5, x.duty(0, 7));
+        Told.law(x, "grow 5 if (old and (old and (old and (old and (not ready or old and 1 + 2 < 4)))))");
+        Check.due("joined six deep", 5, x.duty(0, 7));
+        Told.law(x, "grow 5 if " + "ready or ".repeat(42) + "old or ready");
+        Check.due("many ors", 5, x.duty(0, 7));
+        String ones = "1" + "+1".repeat(192);
+        Check.due("a long sum", 1, Told.law(x, "grow 5if" + ones + ">193"));
+        Check.due("is not above itself", 0, x.duty(0, 7));
+        String filled = "grow5if1+" + ones + ">193";
+        Check.due("a longer text", 398, filled.length());
+        Check.due("is read", 1, Told.law(x, filled + "  "));
+        Check.due("is one above", 5, x.duty(0, 7));
+        Told.text(x, filled + ";a");
+        Check.argument("the tape's last byte is wrong", x::law);
+        Check.due("fault", 399, x.fault());
+        Told.text(x, filled + "+1");
+        Check.due("of 400 bytes", 1, x.law());
+        Check.due("is not above itself", 0, x.duty(0, 7));
+        Told.text(x, filled + "+;");
+        Check.argument("more must come", x::law);
+        Check.due("fault", 399, x.fault());
+    }
+
+    /** What a wrong text left open is open in no later one. */
+    private static void lawsBehindWrongOnes() {
+        Check.promise(5);
+        PutOffParade x = Told.of("person at 3 free 0;duty of 0 takes 1 age 20");
+        String[] wrong = {"grow 1 if ((((((old", "grow 1 if not not not not not not", "grow 1 if old and (old or (", "grow 60;grow 60 if (", "shame 1 if not 5"};
+        for (String text : wrong) {
+            Told.text(x, text);
+            Check.argument(text, x::law);
+            Check.due("behind it: ((((((old))))))", 1, Told.law(x, "grow 7 if ((((((old))))))"));
+            Check.due("grows", 7, x.duty(0, 7));
+            Told.text(x, text);
+            Check.argument(text, x::law);
+            Told.text(x, "grow 7 if old)");
+            Check.argument("behind it: old)", x::law);
+            Check.due("fault", 13, x.fault());
+        }
     }
 
     private static void wrongLaws() {
