@@ -81,7 +81,8 @@ public final class PutOffParade {
     }
 
     public int street() throws IllegalArgumentException, UnsupportedOperationException {
-        wrongByte = streetReader.read(tape, now);
+        streetReader.draft.copyFrom(now);
+        wrongByte = streetReader.readLines(tape);
         tape.length = 0;
         if (wrongByte != NONE) {
             throw new IllegalArgumentException();
@@ -96,7 +97,8 @@ public final class PutOffParade {
     }
 
     public int law() throws IllegalArgumentException {
-        wrongByte = lawReader.read(tape);
+        lawReader.draft.clear();
+        wrongByte = lawReader.readLines(tape);
         tape.length = 0;
         if (wrongByte != NONE) {
             throw new IllegalArgumentException();
@@ -137,8 +139,8 @@ public final class PutOffParade {
             case 6: return now.isReady(duty) ? 1 : 0;
             case 7: return rule.growthOf(now, duty);
             case 8: return rule.shameOf(now, duty);
-            case 9: return Order.placeOf(now, duty);
-            case 10: return Order.passesOf(now, duty);
+            case 9: return now.placeOf(duty);
+            case 10: return now.passesOf(duty);
             default: throw new NoSuchElementException();
         }
     }
@@ -168,10 +170,10 @@ public final class PutOffParade {
 
     public int call(int duty) throws IndexOutOfBoundsException, IllegalStateException {
         needDuty(duty);
-        if (!has(Order.canBits(now), duty)) {
+        if (!has(now.canBits(), duty)) {
             throw new IllegalStateException();
         }
-        int passes = Order.passesOf(now, duty);
+        int passes = now.passesOf(duty);
         rememberAct();
         now.finish(duty);
         return passes;
@@ -252,24 +254,24 @@ public final class PutOffParade {
     // ---- the parade now ----
 
     public int parade(int k) {
-        return Order.dutyAt(now, k);
+        return now.dutyAt(k);
     }
 
     public int can() {
-        return Order.canBits(now);
+        return now.canBits();
     }
 
     public int greets(int duty, int kerb) throws IndexOutOfBoundsException {
         needDuty(duty);
         needKerb(kerb);
-        int place = Order.placeOf(now, duty);
+        int place = now.placeOf(duty);
         return place == NONE ? NONE : now.pace * (place + kerb);
     }
 
     public int where(int duty, int hour) throws IndexOutOfBoundsException, IllegalArgumentException {
         needDuty(duty);
         needNumber(hour, 0, LAST_HOUR);
-        return Order.kerbAt(now, duty, hour);
+        return now.kerbAt(duty, hour);
     }
 
     public int crowd(int from, int to, int hour) throws IndexOutOfBoundsException, IllegalArgumentException {
@@ -279,7 +281,7 @@ public final class PutOffParade {
         needNumber(from, 0, to);
         int crowd = 0;
         for (int d = 0; d < now.duties; d++) {
-            int kerb = Order.kerbAt(now, d, hour);
+            int kerb = now.kerbAt(d, hour);
             if (kerb >= from && kerb <= to) {
                 crowd++;
             }
@@ -663,7 +665,7 @@ public final class PutOffParade {
 
     private void letParadeGoBy() {
         for (int k = 0; k < MOST_DUTIES; k++) {
-            int duty = Order.dutyAt(now, k);
+            int duty = now.dutyAt(k);
             if (duty != NONE) {
                 now.floats.add(now.month, duty, k, rule.shameOf(now, duty));
             }
@@ -974,21 +976,25 @@ public final class PutOffParade {
         }
     }
 
-    /** Reads a text of the street into a draft, of which nothing is used if the text is wrong. */
-    private static final class StreetReader {
-        static final int MOST_LINES = 14;
-
+    /** Reads a text into a draft, of which nothing is used if the text is wrong. */
+    private abstract static class TextReader {
         final Tokens tokens = new Tokens();
-        final Street draft = new Street();
+        final int mostLines;
 
-        /** The first wrong byte, or NONE: then the draft is the street with the text. */
-        int read(Tape tape, Street street) {
-            draft.copyFrom(street);
+        TextReader(int mostLines) {
+            this.mostLines = mostLines;
+        }
+
+        /** True, if the line at hand is right; else what is at hand then is wrong. */
+        abstract boolean readLine();
+
+        /** The first wrong byte, or NONE. */
+        int readLines(Tape tape) {
             tokens.scan(tape);
             if (tokens.isEnd()) {
                 return NONE;
             }
-            for (int lines = 0; lines < MOST_LINES; lines++) {
+            for (int lines = 0; lines < mostLines; lines++) {
                 if (!readLine()) {
                     return tokens.begin;
                 }
@@ -1001,8 +1007,19 @@ public final class PutOffParade {
             }
             return tokens.begin;
         }
+    }
 
-        private boolean readLine() {
+    /** Its draft is the street as it was ahead of the text. */
+    private static final class StreetReader extends TextReader {
+        static final int MOST_LINES = 14;
+
+        final Street draft = new Street();
+
+        StreetReader() {
+            super(MOST_LINES);
+        }
+
+        boolean readLine() {
             if (tokens.word == Word.PERSON) {
                 return draft.people < MOST_PEOPLE && readPerson();
             }
@@ -1250,44 +1267,26 @@ public final class PutOffParade {
     }
 
     /**
-     * Reads a law into a draft, of which nothing is used if the text is wrong. What waits for the
-     * rest of a condition (a not, an and, an or, an open bracket) is held on a stack meanwhile.
+     * What waits for the rest of a condition (a not, an and, an or, an open bracket) is held on a
+     * stack meanwhile.
      */
-    private static final class LawReader {
+    private static final class LawReader extends TextReader {
         static final int MOST_NUMBER = 60;
         static final int DEEPEST = 6;
         static final int HELD = 32;
         /** Above all operations: none of them is emitted past a bracket that is open. */
         static final int BRACKET = Law.OR + 1;
 
-        final Tokens tokens = new Tokens();
         final Law draft = new Law();
         final int[] waiting = new int[HELD];
         int held;
         int depth;
 
-        /** The first wrong byte, or NONE: then the draft is the law that the text tells. */
-        int read(Tape tape) {
-            draft.clear();
-            tokens.scan(tape);
-            if (tokens.isEnd()) {
-                return NONE;
-            }
-            for (int lines = 0; lines < Law.MOST_LINES; lines++) {
-                if (!readLine()) {
-                    return tokens.begin;
-                }
-                if (tokens.isEnd()) {
-                    return NONE;
-                }
-                if (!tokens.takeSign(';')) {
-                    return tokens.begin;
-                }
-            }
-            return tokens.begin;
+        LawReader() {
+            super(Law.MOST_LINES);
         }
 
-        private boolean readLine() {
+        boolean readLine() {
             int kind = takeKind();
             if (kind == NONE) {
                 return false;
@@ -1626,6 +1625,57 @@ public final class PutOffParade {
             return bits;
         }
 
+        int placeOf(int duty) {
+            if (!isWaiting(duty)) {
+                return NONE;
+            }
+            int own = at(age, duty);
+            int place = 0;
+            for (int d = 0; d < duties; d++) {
+                int other = at(age, d);
+                if (isWaiting(d) && (other < own || other == own && d < duty)) {
+                    place++;
+                }
+            }
+            return place;
+        }
+
+        int dutyAt(int place) {
+            for (int d = 0; d < duties; d++) {
+                if (isWaiting(d) && placeOf(d) == place) {
+                    return d;
+                }
+            }
+            return NONE;
+        }
+
+        int passesOf(int duty) {
+            if (!isWaiting(duty)) {
+                return 0;
+            }
+            int notOlder = bitsIn(WAITING) & ~olderThan(at(age, duty));
+            return pace * Integer.bitCount(notOlder);
+        }
+
+        int canBits() {
+            int bits = 0;
+            for (int d = 0; d < duties; d++) {
+                if (isReady(d) && at(left, d) <= passesOf(d)) {
+                    bits |= bit(d);
+                }
+            }
+            return bits;
+        }
+
+        int kerbAt(int duty, int hour) {
+            int place = placeOf(duty);
+            if (place == NONE || pace < 1) {
+                return NONE;
+            }
+            int kerb = hour / pace - place;
+            return kerb < 0 ? NONE : Math.min(kerb, LAST_KERB + 1);
+        }
+
         void finish(int duty) {
             setAt(left, duty, 0);
             setAt(state, duty, DONE);
@@ -1709,60 +1759,6 @@ public final class PutOffParade {
         }
     }
 
-    /** The parade as it is now. */
-    private static final class Order {
-        static int placeOf(Street street, int duty) {
-            if (!street.isWaiting(duty)) {
-                return NONE;
-            }
-            int age = at(street.age, duty);
-            int place = 0;
-            for (int d = 0; d < street.duties; d++) {
-                int other = at(street.age, d);
-                if (street.isWaiting(d) && (other < age || other == age && d < duty)) {
-                    place++;
-                }
-            }
-            return place;
-        }
-
-        static int dutyAt(Street street, int place) {
-            for (int d = 0; d < street.duties; d++) {
-                if (street.isWaiting(d) && placeOf(street, d) == place) {
-                    return d;
-                }
-            }
-            return NONE;
-        }
-
-        static int passesOf(Street street, int duty) {
-            if (!street.isWaiting(duty)) {
-                return 0;
-            }
-            int notOlder = street.bitsIn(WAITING) & ~street.olderThan(at(street.age, duty));
-            return street.pace * Integer.bitCount(notOlder);
-        }
-
-        static int canBits(Street street) {
-            int bits = 0;
-            for (int d = 0; d < street.duties; d++) {
-                if (street.isReady(d) && at(street.left, d) <= passesOf(street, d)) {
-                    bits |= bit(d);
-                }
-            }
-            return bits;
-        }
-
-        static int kerbAt(Street street, int duty, int hour) {
-            int place = placeOf(street, duty);
-            if (place == NONE || street.pace < 1) {
-                return NONE;
-            }
-            int kerb = hour / street.pace - place;
-            return kerb < 0 ? NONE : Math.min(kerb, LAST_KERB + 1);
-        }
-    }
-
     /** What duties lean on, one on another; a done one does not end the chain. */
     private static final class Leaning {
         static int chainOf(Street street, int duty) {
@@ -1822,9 +1818,9 @@ public final class PutOffParade {
         final int[] shames = new int[MOST_DUTIES];
 
         int mostCalled(Street street) {
-            int can = Order.canBits(street);
+            int can = street.canBits();
             for (int d = 0; d < street.duties; d++) {
-                setAt(places, d, Order.placeOf(street, d));
+                setAt(places, d, street.placeOf(d));
             }
             int best = 0;
             for (int set = 1; set <= can; set++) {
