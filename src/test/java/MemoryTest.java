@@ -7,42 +7,13 @@ public final class MemoryTest {
         led();
         log();
         longLog();
+        rowsUndone();
         seed();
         undo();
         undoAfterTexts();
         image();
         imageOfLaw();
         Check.close("MemoryTest", 53, 54, 55, 56, 57, 58);
-    }
-
-    /** All that can be seen of a street, but for the tape, fault() and what is worked out of the rest. */
-    private static String seen(PutOffParade x) {
-        StringBuilder s = new StringBuilder();
-        for (int what = 0; what <= 14; what++) {
-            s.append(x.count(what)).append(' ');
-        }
-        for (int p = 0; p < x.count(0); p++) {
-            for (int what = 0; what <= 5; what++) {
-                s.append(x.person(p, what)).append(' ');
-            }
-        }
-        for (int d = 0; d < x.count(1); d++) {
-            for (int what = 0; what <= 10; what++) {
-                s.append(x.duty(d, what)).append(' ');
-            }
-        }
-        for (int ago = 0; ago < x.count(13); ago++) {
-            for (int what = 0; what <= 3; what++) {
-                s.append(x.log(ago, what)).append(' ');
-            }
-        }
-        int seed = x.seed(0);
-        x.seed(seed);
-        return s.append(seed).toString();
-    }
-
-    private static void due(String what, String want, String got) {
-        Check.due(what + ": " + got + " for " + want, true, want.equals(got));
     }
 
     private static void led() {
@@ -121,14 +92,27 @@ public final class MemoryTest {
         Check.due("rows of 5", 5, x.led(5, false));
         Check.due("rows of 7", 4, x.led(7, false));
         Check.due("the latest of 7", 4, x.led(7, true));
-        String ahead = seen(x);
+    }
+
+    private static void rowsUndone() {
+        Check.promise(56);
+        PutOffParade x = Told.of("person at 0 free 0" + ";duty of 0 takes 99".repeat(12));
+        x.days(90);
+        x.days(90);
+        x.days(90);
+        for (int d = 0; d < 12; d++) {
+            x.put(d);
+        }
+        x.undo();
+        x.days(30);
         x.days(90);
         x.undo();
-        x.days(90);
-        x.days(90);
         x.undo();
-        x.undo();
-        due("the rows that were lost are back", ahead, seen(x));
+        Check.due("60 rows", 60, x.count(13));
+        for (int ago = 0; ago < 60; ago++) {
+            Check.due("MONTH " + ago + " ago", 8 - ago / 12, x.log(ago, 0));
+            Check.due("DUTY " + ago + " ago", 11 - ago % 12, x.log(ago, 1));
+        }
     }
 
     private static void seed() {
@@ -153,42 +137,52 @@ public final class MemoryTest {
         Check.due("as ahead of the act", -77, y.seed(8));
     }
 
-    private static void undo() {
-        Check.promise(56);
+    private static PutOffParade behind(int acts) {
         PutOffParade x = Told.of(STREET, LAW, "ill 30;duty of 2 takes 99;duty of 2 takes 99");
-        Check.due("no act", false, x.undo());
-        String[] was = new String[21];
-        for (int act = 0; act < 20; act++) {
-            was[act] = seen(x);
+        for (int act = 0; act < acts; act++) {
             act(x, act);
-            Check.due("acts", Math.min(12, act + 1), x.count(14));
         }
-        for (int act = 19; act >= 8; act--) {
-            Check.due("undo of act " + act, true, x.undo());
-            due("as ahead of act " + act, was[act].substring(rest(was[act])), seen(x).substring(rest(seen(x))));
-            Check.due("acts left", act - 8, x.count(14));
-        }
-        Check.due("12 are remembered", false, x.undo());
-        Check.due("nothing happens", false, x.undo());
-        act(x, 4);
-        act(x, 9);
-        Check.due("two acts more", 2, x.count(14));
-        Check.due("undone", true, x.undo());
-        Check.due("undone", true, x.undo());
-        Check.due("no more", false, x.undo());
-        due("as it was", was[8].substring(rest(was[8])), seen(x).substring(rest(seen(x))));
-        Check.state("a call that throws is no act", () -> x.recall(0));
-        Check.argument("a call that throws is no act", () -> x.days(0));
-        Check.due("none", false, x.undo());
+        return x;
     }
 
-    /** Behind the counts, the fifteenth of which is how many acts are remembered. */
-    private static int rest(String seen) {
-        int at = 0;
-        for (int i = 0; i < 15; i++) {
-            at = seen.indexOf(' ', at) + 1;
+    private static void undo() {
+        Check.promise(56);
+        Check.due("no act", false, behind(0).undo());
+        for (int acts = 1; acts <= 20; acts++) {
+            PutOffParade x = behind(acts);
+            Check.due("acts", Math.min(12, acts), x.count(14));
         }
-        return at;
+        for (int undone = 1; undone <= 12; undone++) {
+            PutOffParade x = behind(20);
+            for (int i = 0; i < undone; i++) {
+                Check.due("undo", true, x.undo());
+            }
+            Check.due("acts left", 12 - undone, x.count(14));
+            Check.due("as ahead of the act", acts(Seen.street(behind(20 - undone)), 12 - undone), Seen.street(x));
+        }
+        PutOffParade y = behind(20);
+        for (int i = 0; i < 12; i++) {
+            y.undo();
+        }
+        Check.due("12 are remembered", false, y.undo());
+        Check.due("nothing happens", false, y.undo());
+        act(y, 4);
+        act(y, 9);
+        Check.due("two acts more", 2, y.count(14));
+        Check.due("undone", true, y.undo());
+        Check.due("undone", true, y.undo());
+        Check.due("no more", false, y.undo());
+        Check.due("as it was", acts(Seen.street(behind(8)), 0), Seen.street(y));
+        Check.state("a call that throws is no act", () -> y.recall(0));
+        Check.argument("a call that throws is no act", () -> y.days(0));
+        Check.due("none", false, y.undo());
+    }
+
+    /** The same, but with so many acts remembered: the fifteenth number. */
+    private static String acts(String seen, int acts) {
+        int end = seen.indexOf(';') - 1;
+        int from = seen.lastIndexOf(' ', end - 1) + 1;
+        return seen.substring(0, from) + acts + seen.substring(end);
     }
 
     private static void act(PutOffParade x, int n) {
@@ -246,14 +240,22 @@ public final class MemoryTest {
         Check.due("STATE is back", 0, y.duty(1, 5));
     }
 
-    private static void image() {
-        Check.promise(57);
-        PutOffParade x = Told.of(STREET, LAW, "ill 30;duty of 2 takes 99;duty of 2 takes 99");
+    private static PutOffParade imaged() {
+        PutOffParade x = behind(1);
         x.days(10);
         x.seed(44);
-        String was = seen(x);
         x.image();
-        due("nothing changes", was, seen(x));
+        return x;
+    }
+
+    private static void image() {
+        Check.promise(57);
+        PutOffParade y = behind(1);
+        y.days(10);
+        y.seed(44);
+        String was = Seen.street(y);
+        Check.due("nothing changes", was, Seen.street(imaged()));
+        PutOffParade x = imaged();
         for (int act = 0; act < 14; act++) {
             act(x, act);
         }
@@ -263,25 +265,20 @@ public final class MemoryTest {
         x.feed(0, 0, 0, 0, 0);
         Check.promise(58);
         Check.due("back", true, x.back());
-        due("as it was, but for the acts", acts(was, 0), seen(x));
+        Check.due("as it was, but for the acts", acts(was, 0), Seen.street(x));
         Check.due("the tape stays", 40, x.feed(0, 0, 0, 0, 0));
         x.end(0);
         x.days(5);
         Check.due("back once more", true, x.back());
-        due("as it was once more", acts(was, 0), seen(x));
-        x.put(4);
-        String then = seen(x);
+        Check.due("as it was once more", acts(was, 0), Seen.street(x));
         Check.promise(57);
-        x.image();
-        x.put(4);
-        Check.due("back", true, x.back());
-        due("as the later image is", acts(then, 0), seen(x));
-    }
-
-    private static String acts(String seen, int acts) {
-        int end = rest(seen) - 1;
-        int from = seen.lastIndexOf(' ', end - 1) + 1;
-        return seen.substring(0, from) + acts + seen.substring(end);
+        PutOffParade z = imaged();
+        z.put(4);
+        String then = Seen.street(z);
+        z.image();
+        z.put(4);
+        Check.due("back", true, z.back());
+        Check.due("as the later image is", acts(then, 0), Seen.street(z));
     }
 
     private static void imageOfLaw() {

@@ -4,11 +4,11 @@ public final class TapeTest {
         feeding();
         ending();
         usingUp();
-        Check.close("TapeTest", 2, 3);
+        Check.close("TapeTest", 2, 3, 4);
     }
 
     private static void feeding() {
-        Check.promise(2);
+        Check.sentence(2, "how many it has; NONE, and none come, if it would have more than 400");
         PutOffParade x = new PutOffParade();
         for (int n = 1; n <= 20; n++) {
             Check.due("feed number " + n, 20 * n, x.feed(n, n, n, n, n));
@@ -23,6 +23,7 @@ public final class TapeTest {
         x.end(7);
         Check.due("feed behind 7", 27, x.feed(0, 0, 0, 0, 0));
 
+        Check.sentence(2, "Twenty bytes come behind the TAPE, of each number the highest first");
         PutOffParade y = new PutOffParade();
         y.feed(0x696c6c20, 0x37303b64, 0x61792033, 0x2020203b, 0x70616365);
         y.feed(0x20350000, 0, 0, 0, 0);
@@ -39,7 +40,7 @@ public final class TapeTest {
     }
 
     private static void ending() {
-        Check.promise(3);
+        Check.sentence(3, "The TAPE has its first n bytes alone: true; false, and nothing happens, if it has fewer, or n is below 0");
         PutOffParade x = new PutOffParade();
         Check.due("end(0) of nothing", true, x.end(0));
         Check.due("end(1) of nothing", false, x.end(1));
@@ -65,7 +66,7 @@ public final class TapeTest {
     }
 
     private static void usingUp() {
-        Check.promise(3);
+        Check.sentence(4, "Uses the TAPE up");
         PutOffParade x = new PutOffParade();
         Told.street(x, "person at 3 free 4");
         Check.due("used up by street", false, x.end(1));

@@ -192,8 +192,8 @@ public final class TextTest {
     /** Of duty 3 of this street: left 7, age 12, no tool, owner 1, kerb 9, day 20; it leans on 2, which waits. */
     private static void conditions() {
         Check.promise(5);
-        PutOffParade x = Told.of("person at 3 free 0;person at 9 free 0;day 20;duty of 0 takes 1;duty of 0 takes 1 tool 4;"
-            + "duty of 0 takes 30 age 11;duty of 1 takes 7 age 12 on 2");
+        String street = "person at 3 free 0;person at 9 free 0;day 20;duty of 0 takes 1;duty of 0 takes 1 tool 4;"
+            + "duty of 0 takes 30 age 11;duty of 1 takes 7 age 12 on 2";
         String[] holding = {
             "old", "not ready", "not not old", "duty > 2", "duty < 4", "left > 6", "left < 8", "age > 11", "age < 13", "tool > 8",
             "tool < 10", "owner > 0", "owner < 2", "kerb > 8", "kerb < 10", "day > 19", "day < 21", "0 < 1", "999 > 998",
@@ -214,17 +214,21 @@ public final class TextTest {
             "160 > left+age+kerb+day+tool+owner+duty+100", "(ready) or (not (old or ready) and old)", "old and old and ready",
         };
         for (String condition : holding) {
+            PutOffParade x = Told.of(street);
             Told.law(x, "grow 5 if " + condition + ";shame 1");
             Check.due("grow 5 if " + condition, 5, x.duty(3, 7));
         }
         for (String condition : readyOnes) {
+            PutOffParade x = Told.of(street);
             Told.law(x, "grow 5 if " + condition);
             Check.due("of a ready one: grow 5 if " + condition, 5, x.duty(0, 7));
         }
         for (String condition : failing) {
+            PutOffParade x = Told.of(street);
             Told.law(x, "shame 1;grow 5 if " + condition);
             Check.due("grow 5 if " + condition, 0, x.duty(3, 7));
         }
+        PutOffParade x = Told.of(street);
         Told.law(x, "grow 1 if old;grow 2 if ready;grow 4 if tool < 9;grow 8 if duty < 1;grow 16 if kerb < 4;grow 32 if age + left > 40");
         Check.due("of duty 0", 26, x.duty(0, 7));
         Check.due("of duty 1", 22, x.duty(1, 7));

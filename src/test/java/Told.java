@@ -54,4 +54,25 @@ final class Told {
         street(x, more);
         return x;
     }
+
+    /** The text is wrong where | stands in it, which itself is not told. */
+    static void wrongStreet(PutOffParade x, String text) {
+        text(x, text.replace("|", ""));
+        Check.argument("street: " + text, x::street);
+        Check.due("fault of " + text, text.indexOf('|'), x.fault());
+    }
+
+    static void wrongStreet(String text) {
+        wrongStreet(new PutOffParade(), text);
+    }
+
+    static void wrongLaw(PutOffParade x, String text) {
+        text(x, text.replace("|", ""));
+        Check.argument("law: " + text, x::law);
+        Check.due("fault of " + text, text.indexOf('|'), x.fault());
+    }
+
+    static void wrongLaw(String text) {
+        wrongLaw(new PutOffParade(), text);
+    }
 }
