@@ -111,7 +111,7 @@ public final class ActTest {
     }
 
     private static void leaning() {
-        Check.promise(14);
+        Check.sentence(14, "Told to LEAN on another one, or on none (NONE): on which it did; NONE");
         PutOffParade x = Told.of(STREET);
         Check.due("on none", -1, x.lean(0, 4));
         Check.due("told", 4, x.duty(0, 4));

@@ -113,6 +113,7 @@ public final class DayBoundTest {
         String two = "person at 0 free 2;person at 0 free 2;";
         lefts("with the first one", dayLater(two + "duty of 0 takes 9 tool 0;duty of 1 takes 9 tool 0"), 7, 9);
         lefts("by numbers of PEOPLE", dayLater(two + "duty of 1 takes 9 tool 0;duty of 0 takes 9 tool 0"), 9, 7);
+        Check.sentence(16, "But of each TOOL there is one");
         lefts("with each there is one", dayLater(two + "duty of 0 takes 9 tool 0;duty of 1 takes 9 tool 1"), 7, 7);
         lefts("with TOOL 5", dayLater(two + "duty of 0 takes 9 tool 5;duty of 1 takes 9 tool 5"), 7, 9);
         lefts("with one that was done by it", dayLater(two + "duty of 0 takes 1 tool 3;duty of 1 takes 9 tool 3"), 0, 9);

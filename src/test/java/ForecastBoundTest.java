@@ -65,6 +65,11 @@ public final class ForecastBoundTest {
     }
 
     private static void sick() {
+        Check.sentence(48, "by how many DAYS ALL would be later, if that one had no FREE hour");
+        PutOffParade y = Told.of("person at 0 free 0;person at 0 free 1;person at 0 free 3;duty of 1 takes 5");
+        Check.due("who has none and has nothing to do", 0, y.sick(0));
+        Check.due("who has nothing to do", 0, y.sick(2));
+        Check.due("FREE stays", 3, y.person(2, 1));
         Check.sentence(48, "(NONE, if ALL is none now; 1000, if just then)");
         PutOffParade x = Told.of("person at 0 free 1;person at 0 free 1;duty of 0 takes 90;duty of 0 takes 1;forgotten 1");
         Check.due("none just then", 1000, x.sick(0));

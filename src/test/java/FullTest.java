@@ -17,7 +17,8 @@ public final class FullTest {
         rowsComeBack();
         deepest();
         dearestSum();
-        Check.close("FullTest", 2, 4, 5, 6, 7, 8, 17, 22, 23, 24, 26, 27, 28, 29, 30, 32, 33, 37, 44, 45, 49, 54, 56, 58, 59);
+        lastCall();
+        Check.close("FullTest", 1, 2, 4, 5, 6, 7, 8, 17, 22, 23, 24, 26, 27, 28, 29, 30, 32, 33, 37, 44, 45, 49, 54, 56, 58, 59);
     }
 
     /** Six PEOPLE at KERBS 0, 3, .. 15 with 1, 2, .. 6 hours; DUTY d of PERSON d modulo 6 takes d + 1 hours, AGE is d. */
@@ -313,12 +314,13 @@ public final class FullTest {
     }
 
     private static void twelveTexts() {
-        Check.sentence(4, "UnsupportedOperationException: there are 12");
+        Check.sentence(4, "is told in texts (at most 12, one behind another)");
         PutOffParade x = new PutOffParade();
         for (int n = 1; n <= 12; n++) {
             Check.due("text " + n, n, Told.street(x, "ill " + n));
         }
         Check.due("twelve", 12, x.count(2));
+        Check.sentence(4, "UnsupportedOperationException: there are 12");
         Told.law(x, "shame 3");
         String ahead = Seen.street(x);
         Told.text(x, "ill 13");
@@ -414,6 +416,27 @@ public final class FullTest {
         Told.wrongLaw(x, "grow 7 if " + sixDeep + " and ((((((|(old)))))))");
         Told.wrongLaw(x, "grow 7 if ((((((|not old))))))");
         Check.due("the law stays", 7, x.duty(0, 7));
+    }
+
+    private static void lastCall() {
+        Check.sentence(1, "An object is used for at most 512 calls after it has been made");
+        PutOffParade x = new PutOffParade();
+        int calls = 0;
+        while (calls < 511) {
+            x.days(1);
+            calls++;
+        }
+        Check.due("the last one", 17, x.count(5));
+        PutOffParade y = new PutOffParade();
+        for (int call = 1; call < 512; call++) {
+            y.seed(call);
+        }
+        Check.due("the last one", 511, y.seed(512));
+        PutOffParade z = Told.of("person at 0 free 0;duty of 0 takes 1");
+        for (int call = 6; call < 512; call++) {
+            Check.due("call " + call, Math.min(99, call - 5), z.put(0));
+        }
+        Check.due("the last one", true, z.undo());
     }
 
     private static void dearestSum() {

@@ -192,6 +192,18 @@ public final class ParadeBoundTest {
         Check.due("SHAME in 99", 3, x.does(99, true));
         Check.argument("in 100", () -> x.does(100, false));
         Check.argument("in -1", () -> x.does(-1, true));
+        Check.sentence(23, "by which what the others SHAME by together is the least");
+        PutOffParade z = Told.of("person at 0 free 0;duty of 0 takes 3 age 5;duty of 0 takes 3 age 4;duty of 0 takes 6 age 10;duty of 0 takes 1 age 50;forgotten 3");
+        Check.due("9 of 19 is less than 10", 4, z.does(6, false));
+        Check.due("9 of 19", 9, z.does(6, true));
+        z.put(0);
+        z.put(0);
+        Check.due("10 of 21 is less than 11", 3, z.does(6, false));
+        Check.sentence(23, "how much SHAME then");
+        Check.due("of none", 21, z.does(2, true));
+        Check.due("of the others", 10, z.does(6, true));
+        Check.due("of all but one", 4, z.does(9, true));
+        Check.due("of all", 0, z.does(12, true));
         Check.sentence(23, "whose LEFT together is H at most");
         PutOffParade y = Told.of("person at 0 free 0;duty of 0 takes 4 age 1;duty of 0 takes 5 age 2;duty of 0 takes 6 age 3");
         int[][] due = {{3, 0, 6}, {4, 1, 5}, {5, 2, 4}, {6, 4, 3}, {9, 3, 3}, {10, 5, 2}, {11, 6, 1}, {14, 6, 1}, {15, 7, 0}, {99, 7, 0}};

@@ -13,6 +13,7 @@ public final class PeopleBoundTest {
         swap();
         swapOfSeveral();
         rests();
+        bothWait();
         halfOfLeft();
         sponsor();
         idle();
@@ -91,6 +92,14 @@ public final class PeopleBoundTest {
     }
 
     private static void fewerThanTwo() {
+        Check.sentence(33, "ASK (the TAPE likewise); NONE");
+        PutOffParade y = Told.of("person at 3 free 0;person at 6 free 0");
+        Told.bytes(y, 0, 15, 3);
+        Check.argument("three bytes", y::ask);
+        Check.due("none told: all", 3, ask(y));
+        Check.due("forty bytes", -1, ask(y, new int[40]));
+        Told.bytes(y, new int[42]);
+        Check.argument("42 bytes", y::ask);
         Check.sentence(33, "none with fewer than two)");
         PutOffParade x = Told.of("person at 3 free 0;person at 6 free 0;person at 6 free 0");
         Check.due("nobody fits", -1, ask(x, 0, 2));
@@ -202,6 +211,16 @@ public final class PeopleBoundTest {
         }
         x.call(4);
         Check.due("LEFT 0, SHAME 0: all are alike", 15, x.rests(0, 1, 4));
+    }
+
+    private static void bothWait() {
+        Check.sentence(38, "if both wait, each has 0 less that");
+        PutOffParade x = Told.of(TWO + "duty of 0 takes 9 age 4;duty of 0 takes 9 age 5;duty of 0 takes 8 age 4");
+        Check.due("4 less 9 is below 0 less 4", 8, x.rests(0, 1, 0));
+        Check.due("5 less 9 is above 0 less 5", 6, x.rests(0, 1, 1));
+        Check.due("4 less 8 is 0 less 4", 14, x.rests(0, 1, 2));
+        Check.sentence(38, "who waits has what it SHAMES by, if the other one does it");
+        Check.due("as if both did it, with no hour to do", 7, Told.of(TWO + "duty of 0 takes 1 age 9").rests(1, 0, 0));
     }
 
     private static void halfOfLeft() {

@@ -71,6 +71,7 @@ public final class ShowTest {
         Check.index("index first", () -> x.duty(6, 11));
         Check.element("duty(0, 11)", () -> x.duty(0, 11));
         Check.element("duty(5, -1)", () -> x.duty(5, -1));
+        Check.sentence(8, "(7, 8 as if it was waiting)");
         Told.law(x, "grow 7 if ready;shame 20 if ready;ease 3 if left < 1;grow 9 if left > 8");
         Check.due("GROWS of a forgotten one, as if it was waiting", 16, x.duty(5, 7));
         Check.due("SHAMES of a forgotten one, as if it was waiting", 20, x.duty(5, 8));
@@ -80,6 +81,7 @@ public final class ShowTest {
         for (int what = 0; what < done.length; what++) {
             Check.due("duty(0, " + what + ") done", done[what], x.duty(0, what));
         }
+        Check.promise(8);
         Check.due("READY by one that is done", 1, x.duty(1, 6));
         Check.due("PLACE moves up", 1, x.duty(1, 9));
         Check.due("PASSES fewer", 6, x.duty(1, 10));
@@ -105,9 +107,12 @@ public final class ShowTest {
         for (int what = 0; what < due.length; what++) {
             Check.due("count(" + what + ")", due[what], x.count(what));
         }
+        Check.sentence(59, "NONE for another what");
         Check.due("count(15)", -1, x.count(15));
         Check.due("count(-1)", -1, x.count(-1));
         Check.due("count(2147483647)", -1, x.count(Integer.MAX_VALUE));
+        Check.due("count(-2147483648)", -1, x.count(Integer.MIN_VALUE));
+        Check.promise(59);
         Told.law(x, "shame 3 if ready;grow 1");
         x.free(2, 1);
         x.days(4);

@@ -59,6 +59,12 @@ public final class TextBoundTest {
         Check.due("LEFT 99", 99, Told.of(P + "duty of 0 takes 99").duty(0, 1));
         Told.wrongStreet(P + "duty of 0 takes |0");
         Told.wrongStreet(P + "duty of 0 takes |100");
+        Check.sentence(4, "takes: 1 to 99; N of tool: 0 to 5");
+        Check.due("the most of both", 5, Told.of(P + "duty of 0 takes 99 tool 5").duty(0, 3));
+        Check.due("the least of both", 1, Told.of(P + "duty of 0 takes 1 tool 0").duty(0, 1));
+        Told.wrongStreet(P + "duty of 0 takes |100 tool 6");
+        Told.wrongStreet(P + "duty of 0 takes 99 tool |6");
+        Told.wrongStreet(P + "duty of 0 takes |0 tool 0");
         Check.sentence(4, "AGE 0 to 99 months (0 at first)");
         Check.due("AGE at first", 0, Told.of(P + "duty of 0 takes 1").duty(0, 2));
         Check.due("AGE 0", 0, Told.of(P + "duty of 0 takes 1 age 0").duty(0, 2));
@@ -139,7 +145,9 @@ public final class TextBoundTest {
         Told.wrongStreet("day |31");
         Check.sentence(4, "MONTH 0 to 9999 (0 at first)");
         Check.due("MONTH at first", 0, new PutOffParade().count(5));
-        Check.sentence(4, "month: 0 to 999");
+        Check.sentence(4, "day: 1 to 30; month: 0 to 999");
+        Told.wrongStreet("day 30;month 999;day |31");
+        Told.wrongStreet("day 1;month 0;day |0");
         Check.due("MONTH 0", 0, count("month 9;month 0", 5));
         Check.due("MONTH 999", 999, count("month 999", 5));
         Told.wrongStreet("month |1000");
