@@ -224,8 +224,15 @@ public final class TextBoundTest {
         Told.wrongStreet("month |00999");
         Told.wrongStreet("ill |4294967303");
         Told.wrongStreet("ill |18446744073709551617");
-        Told.wrongStreet("person at |0001 free 1");
-        Told.wrongStreet(P + D + "forgotten |0000");
+        String[] ahead = {"person at ", "person at 1 free ", P + "duty of ", P + "duty of 0 takes ", P + "duty of 0 takes 1 age ", P + "duty of 0 takes 1 tool ",
+            P + D + "duty of 0 takes 1 on ", P + D + "forgotten ", "ill ", "pace ", "price ", "day ", "month "};
+        for (String begun : ahead) {
+            for (String number : new String[] {"0000", "0001", "1000", "9999", "00000", "4294967296", "-1", "+1"}) {
+                Told.wrongStreet(begun + "|" + number);
+                Told.wrongStreet(begun + "|" + number + " ;ill 1");
+                Told.wrongStreet(begun + "|" + number + " free 1");
+            }
+        }
     }
 
     private static void lawInPlaceOfTheOneBefore() {
