@@ -165,6 +165,14 @@ public final class FullTest {
         Check.due("CROWD of all", 12, x.crowd(0, 15, 22));
         Check.sentence(22, "the greatest number of CAN DUTIES that can be called out");
         Check.due("six of twelve", 2709, x.most());
+        PutOffParade y = Told.of("person at 0 free 0;person at 0 free 0;" + "duty of 0 takes 1;".repeat(11) + "duty of 1 takes 1");
+        for (int d = 0; d < 10; d++) {
+            y.forget(d);
+        }
+        Check.due("CAN of the last two", 3072, y.can());
+        Check.due("they are next to each other", 1024, y.most());
+        y.recall(9);
+        Check.due("one goes by ahead of these", 2560, y.most());
         Check.sentence(23, "DO in H hours (0 to 99)");
         Check.due("all but the one that SHAMES by 0", 4094, x.does(99, false));
         Check.due("SHAME then", 0, x.does(99, true));

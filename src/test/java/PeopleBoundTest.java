@@ -64,8 +64,8 @@ public final class PeopleBoundTest {
             Told.bytes(x, bytes);
             Check.argument(bytes.length + " bytes that begin with " + bytes[0], x::ask);
         }
-        int[][] long_ = {new int[38], new int[39], new int[40], new int[41], new int[42], new int[400]};
-        for (int[] bytes : long_) {
+        int[][] lengths = {new int[38], new int[39], new int[40], new int[41], new int[42], new int[400]};
+        for (int[] bytes : lengths) {
             Told.bytes(x, bytes);
             if (bytes.length == 38 || bytes.length == 40) {
                 Check.due(bytes.length + " bytes", 1, x.whose());
